@@ -842,10 +842,11 @@ public final class DoorTown {
         int nextTo(int rooms, int open) {
             int more = 0;
             for (int w = 0; w < walls; w++) {
-                if (hasBit(open, w) && hasBit(rooms, sideA[w])) {
+                boolean isOpen = hasBit(open, w);
+                if (isOpen && hasBit(rooms, sideA[w])) {
                     more |= 1 << sideB[w];
                 }
-                if (hasBit(open, w) && hasBit(rooms, sideB[w])) {
+                if (isOpen && hasBit(rooms, sideB[w])) {
                     more |= 1 << sideA[w];
                 }
             }

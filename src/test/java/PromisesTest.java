@@ -229,6 +229,7 @@ public final class PromisesTest {
         refused("own 1 1 0;own 1 1 0 ?", 4, 18);
         refused("room 1 5;room 1 6;", 4, 14);
         refused("room 1 5;room 01 ?", 4, 14);
+        refused("room 1 5;room 2 5;room 3 5;room 1 5;", 4, 32);
         refused(times(5, "own 1 1;") + "own 9 9;", 5, 40);
         refused(times(5, "gaol1 1;") + " stranger ?", 5, 41);
         refused(times(9, "wall 1 2;") + "wall ?", 5, 81);
@@ -260,6 +261,11 @@ public final class PromisesTest {
         refused("room 1 100;", 1, 7);
         refused("room 1 1000;", 1, 7);
         refused("own {", 1, 4);
+        refused("own 1 1;\0", 1, 8);
+        refused("own 1 1;\177", 1, 8);
+        refused("own 1 1;z", 2, 8);
+        refused("own 1 1;xwn 1 1;", 2, 8);
+        refused("own 1 1;owm 1 1;", 2, 8);
         refused("own `", 1, 4);
         refused("own :", 1, 4);
         refused("own /", 1, 4);
@@ -636,6 +642,9 @@ public final class PromisesTest {
         due("24 p above", x.friend(4, 1, 0), BAD);
         due("24 p below", x.friend(-1, 1, 0), BAD);
         due("24 nothing is changed", x.rule(2), 2);
+        DoorTown y = town("gaol0 0;own0 0;wall0 1;");
+        due("24 ONE 0, WALL 0", y.friend(1, 1, 0), 0);
+        due("24 ONE 0, WALL 0", y.friend(1, 1, 1), 1);
     }
 
     private static void p25Gain() {
@@ -659,6 +668,9 @@ public final class PromisesTest {
         due("25 p above", x.gain(3, 0), BAD);
         due("25 p below", x.gain(-1, 0), BAD);
         due("25 bad ahead of state", x.gain(0, 2), BAD);
+        DoorTown y = town("own0 0;wall0 1;room1 1;");
+        due("25 WALL 0", y.gain(0, 0), 0);
+        due("25 of 1", y.gain(0, 1), 1);
     }
 
     private static void p26Shut() {
@@ -741,6 +753,9 @@ public final class PromisesTest {
         due("29 p above", x.dear(5, 0), BAD);
         due("29 p below", x.dear(-1, 0), BAD);
         due("29 nothing is changed", x.rule(2), 4);
+        DoorTown y = town("own0 0 0;wall0 1;room1 1;");
+        due("29 WALL 0", y.dear(0, 0), 0);
+        due("29 of 1", y.dear(0, 1), 1);
     }
 
     // ---- doors that jam
@@ -882,6 +897,9 @@ public final class PromisesTest {
         z.alter(2, 1, 3);
         due("36 another one is asked", z.ask(1, 0), 25);
         due("36 three are left", z.ask(1, 1), 3);
+        DoorTown v = town("own0 1;wall0 1;wall4 5;");
+        due("36 ONE 0, ROOM 0", v.ask(0, 0), 0);
+        due("36 one is left", v.ask(0, 1), 1);
     }
 
     // ---- by a seed
