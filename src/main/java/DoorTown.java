@@ -1283,8 +1283,8 @@ public final class DoorTown {
             }
             planTold = true;
             for (int turn = 0; turn <= MOST_ACTS && nextToken() && tape.token != SIGN; turn++) {
-                // A 7th is refused by whatever TOKEN it begins with; the end begins none.
-                if (told.acts >= MOST_ACTS && tape.token != END) {
+                // A 7th begins with a NUMBER, whatever its value; no other TOKEN begins an ACT.
+                if (told.acts >= MOST_ACTS && tape.token == NUMBER) {
                     refuse(5);
                 }
                 int p = numberHere(MOST_PEOPLE - 1);

@@ -340,7 +340,7 @@ public final class Model {
 
     private static void parsePlan(State to, Tokens t) {
         for (t.next(); !t.token.equals(";"); t.next()) {
-            if (to.plan.size() == 6 && !t.token.isEmpty()) {
+            if (to.plan.size() == 6 && t.token.matches("[0-9]+")) {
                 throw new Fault(5, t.from);
             }
             int p = t.numberHere(4);

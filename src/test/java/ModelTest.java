@@ -187,8 +187,21 @@ public final class ModelTest {
         return text.length() > 160 ? text.substring(0, text.lastIndexOf(";", 159) + 1) : text.toString();
     }
 
+    /** A plan of about as many ACTS as there may be, with any TOKEN, or none, behind it. */
+    private String longPlan() {
+        StringBuilder text = new StringBuilder("own 0 0;wall 0 1;plan");
+        for (int i = 5 + random.nextInt(3); i > 0; i--) {
+            text.append(random.nextInt(30) / 29).append(" 0 ");
+        }
+        String[] behind = {"", ";", WORDS[random.nextInt(WORDS.length)], "?", "100", "" + random.nextInt(12)};
+        return text.append(behind[random.nextInt(behind.length)]).append(random.nextBoolean() ? ";" : "").toString();
+    }
+
     /** A short text of random TOKENS, or a good one with a byte or two changed. */
     private String badText() {
+        if (random.nextInt(5) == 0) {
+            return longPlan();
+        }
         StringBuilder text = new StringBuilder(random.nextBoolean() ? goodText() : "");
         if (text.length() == 0) {
             for (int i = random.nextInt(14); i > 0; i--) {
