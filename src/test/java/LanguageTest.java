@@ -16,9 +16,9 @@ import java.util.regex.Pattern;
 /** The face of the document, and those rules of LANGUAGE.md that a look at the source or the class can tell. */
 public final class LanguageTest {
     private static final String[] BANNED = {"\\bthrow\\b", "\\bthrows\\b", "\\btry\\b", "\\bcatch\\b", "\\bassert\\b",
-        "\\bsynchronized\\b", "->", "::", "\\bvar\\b", "\\brecord\\b", "\"\\s*\\+", "\\+\\s*\"", "\\bpackage\\b",
+        "\\bsynchronized\\b", "->", "::", "\\bvar\\b", "\"\\s*\\+", "\\+\\s*\"", "\\bpackage\\b",
         "\\bstatic\\s*\\{", "Exact\\s*\\(", "\\bSystem\\.(?!arraycopy)", "\\bRandom\\b", "\\bThread\\b",
-        "Arrays\\.(?!fill|copyOf)", "String\\.", "\\bObject\\b", "\\bnull\\b"};
+        "Arrays\\.(?!fill|copyOf)", "String\\.", "\\bObject\\b"};
 
     private static int wrong = 0;
 
@@ -27,7 +27,7 @@ public final class LanguageTest {
         String source = Files.readString(root.resolve("src/main/java/DoorTown.java"));
         String document = Files.readString(root.resolve("../shared/DOC.md"));
         noBanned(source);
-        onlyOneImport(source);
+        onlyToldImports(source);
         shortMethods(source);
         sameFace(document);
         noSharedNames();
@@ -45,6 +45,8 @@ public final class LanguageTest {
 
     private static void noBanned(String source) {
         String code = source.replaceAll("(?s)/\\*.*?\\*/", "").replaceAll("//.*", "");
+        // A switch may have arrows; what is left of them are lambdas.
+        code = code.replaceAll("\\b(case\\b[^:;{}]*?|default\\s*)->", "$1:");
         for (String banned : BANNED) {
             Matcher m = Pattern.compile(banned).matcher(code);
             if (m.find()) {
@@ -58,10 +60,10 @@ public final class LanguageTest {
         }
     }
 
-    private static void onlyOneImport(String source) {
+    private static void onlyToldImports(String source) {
         Matcher m = Pattern.compile("(?m)^import (.*);$").matcher(source);
         while (m.find()) {
-            if (!m.group(1).equals("java.util.Arrays")) {
+            if (!Set.of("java.util.Arrays", "java.util.ArrayList", "java.util.List", "java.util.Iterator").contains(m.group(1))) {
                 breach("import of " + m.group(1));
             }
         }

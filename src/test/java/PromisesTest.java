@@ -1,16 +1,11 @@
 /** The promises of ../shared/DOC.md, one method each: ordinary inputs, the edges, wrong inputs. */
-public final class PromisesTest {
-    private static final int BAD = DoorTown.BAD, STATE = DoorTown.STATE, FULL = DoorTown.FULL, NONE = DoorTown.NONE;
-    private static final int MIN = Integer.MIN_VALUE, MAX = Integer.MAX_VALUE;
+public final class PromisesTest extends Asking {
     /** ONE 0 of a house of two, 1 who is for strangers, 2 and 3 with a FREE DOOR; a ring of four ROOMS and a yard. */
     private static final String TOWN = "house 1 0 0;stranger 1 2 1;gaol 2 3;own 0 0;"
         + "wall 0 1;wall 1 2;wall 2 3;wall 3 0;wall 3 7;room 2 40;room 7 9;plan 2 2 3 3 2 4;";
     /** ONE 0 may pass 0-1-2 or 0-3-2 by the DOORS of his HOUSE, and 2-4 beyond. */
     private static final String RING = "house0 0 0;house0 0 1;house0 0 2;house0 0 3;house0 5 4;"
         + "wall0 1;wall1 2;wall0 3;wall3 2;wall2 4;room4 30;room1 5;room3 7;";
-
-    private static int wrong = 0;
-    private static int asked = 0;
 
     public static void main(String[] args) {
         p01New();
@@ -61,38 +56,7 @@ public final class PromisesTest {
         p42ReadFaults();
         p43Torn();
         p44Count();
-        System.out.println(asked + " answers asked, " + wrong + " wrong");
-        if (wrong != 0) {
-            System.exit(1);
-        }
-    }
-
-    private static void due(String what, long got, long want) {
-        asked++;
-        if (got != want) {
-            wrong++;
-            System.out.println(what + " answered " + got + ", due is " + want);
-        }
-    }
-
-    private static int tell(DoorTown x, String text) {
-        for (int i = 0; i < text.length(); i++) {
-            x.feed(text.charAt(i));
-        }
-        return x.text();
-    }
-
-    private static DoorTown town(String text) {
-        DoorTown x = new DoorTown();
-        due("text of " + text, tell(x, text) < 0 ? 0 : 1, 1);
-        return x;
-    }
-
-    private static void refused(String text, int fault, int place) {
-        DoorTown x = new DoorTown();
-        due("text " + text, tell(x, text), -10 - place);
-        due("fault of " + text, x.fault(), fault);
-        due("nobody by " + text, x.rule(0) + x.rule(1) + x.rule(3) + x.count(4), 0);
+        finish();
     }
 
     private static String times(int n, String text) {
