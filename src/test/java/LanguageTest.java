@@ -20,6 +20,19 @@ public final class LanguageTest {
         "\\bstatic\\s*\\{", "Exact\\s*\\(", "\\bSystem\\.(?!arraycopy)", "\\bRandom\\b", "\\bThread\\b",
         "Arrays\\.(?!fill|copyOf)", "String\\.", "\\bObject\\b"};
 
+    /** What LANGUAGE.md lets be called of the library, by class; Exact functions stand under none. */
+    private static final String LIBRARY = "java/lang/Object\\.<init>\\(\\)V"
+        + "|java/lang/String\\.(length|charAt|isEmpty|equals|indexOf\\(I|substring|toCharArray|<init>\\(\\[C\\)).*"
+        + "|java/lang/StringBuilder\\.(<init>|append\\((C|I|Ljava/lang/String;)\\)|charAt|setCharAt|setLength|deleteCharAt"
+        + "|reverse|length|toString).*"
+        + "|java/util/(ArrayList|List)\\.(<init>|add|get|set|remove|size|isEmpty|clear|of|iterator).*"
+        + "|java/util/Iterator\\.(hasNext|next).*"
+        + "|java/lang/(Integer|Long|Math)\\.(?!\\w*Exact\\().*"
+        + "|java/lang/System\\.arraycopy.*"
+        + "|java/util/Arrays\\.(copyOf|copyOfRange|fill)\\(\\[[IJSBCDFZ].*"
+        + "|\\[.*\\.clone\\(\\).*";
+    private static final int DEEPEST = 8;
+
     private static int wrong = 0;
 
     public static void main(String[] args) throws IOException {
@@ -32,6 +45,7 @@ public final class LanguageTest {
         sameFace(document);
         noSharedNames();
         noStaticState();
+        compiledCode();
         System.out.println(wrong == 0 ? "the language is kept" : wrong + " breaches");
         if (wrong != 0) {
             System.exit(1);
@@ -175,6 +189,50 @@ public final class LanguageTest {
             if (own > 20) {
                 breach(each + " has " + own + " fields");
             }
+        }
+    }
+
+    private static void compiledCode() throws IOException {
+        Compiled compiled = new Compiled();
+        compiled.add(DoorTown.class);
+        for (Class<?> inside : DoorTown.class.getDeclaredClasses()) {
+            compiled.add(inside);
+        }
+        for (String method : compiled.calls.keySet()) {
+            onlyToldLibrary(method, compiled);
+            shallow(method, compiled);
+        }
+        none(compiled.throwers, "throws");
+        none(compiled.catchers, "catches, or holds a lock");
+        none(compiled.dynamic, "joins a text by +, or has a lambda");
+        none(compiled.casters, "casts an object");
+        // Rows are made once, so that 512 calls on many objects find place in one room.
+        compiled.makers.removeIf(method -> method.contains("<init>") || method.contains("<clinit>"));
+        none(compiled.makers, "makes an object in a call");
+    }
+
+    private static void onlyToldLibrary(String method, Compiled compiled) {
+        for (String called : compiled.calls.get(method)) {
+            if (!compiled.calls.containsKey(called) && !called.matches(LIBRARY)) {
+                breach(method + " calls " + called);
+            }
+        }
+    }
+
+    private static void shallow(String method, Compiled compiled) {
+        if (compiled.recurs(method)) {
+            breach(method + " comes back to itself");
+            return;
+        }
+        List<String> chain = compiled.deepest(method, List.of());
+        if (chain.size() > DEEPEST) {
+            breach("calls " + chain.size() + " deep: " + chain);
+        }
+    }
+
+    private static void none(Set<String> methods, String what) {
+        for (String method : methods) {
+            breach(method + " " + what);
         }
     }
 }
